@@ -466,7 +466,7 @@ public final class HoldingStack {
         }
     }
 
-    /** An aircraft; its level, place and call count only while it is HOLDING, its end time only afterwards. */
+    /** An aircraft. While it is HOLDING its end time means nothing; afterwards its level, place and call mean nothing. */
     private static final class Aircraft {
         final int number;
         Kind kind = Kind.LIGHT;

@@ -25,7 +25,7 @@ final class Check {
     }
   }
 
-  /** A call that must have been recorded: undo() brings the number of states back. */
+  /** After a successful call the history must have one state more, five at most. */
   void recorded(String call, HoldingStack stack, int statesBefore) {
     due(call + " is recorded", stack.tell(17), Math.min(5, statesBefore + 1));
   }

@@ -39,8 +39,8 @@ public final class ForecastTest {
   private static void oneAircraft() {
     HoldingStack x = new HoldingStack();
     x.enter(LIGHT, 500, 0);
-    check.due("minutesLeft", x.minutesLeft(0), 3);
     check.due("landsWith", x.landsWith(0), 488);
+    check.due("minutesLeft", x.minutesLeft(0), 3);
     check.due("lands(0)", x.lands(0), 0);
     x.pass(2);
     check.due("minutesLeft", x.minutesLeft(0), 1);

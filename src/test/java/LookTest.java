@@ -188,6 +188,17 @@ public final class LookTest {
     check.due("level 2, open", x.why(2), 4);
     x.call(2);
     check.due("level 2, called", x.why(2), 4);
+
+    HoldingStack y = new HoldingStack();
+    y.setLadder(false);
+    y.enter(LIGHT, 900, 9);
+    y.enter(LIGHT, 900, 7);
+    y.enter(LIGHT, 900, 6);
+    y.pass(3);
+    y.setLadder(true);
+    check.due("only the second level below is taken", y.why(0), 0);
+    check.due("only the next level below is taken", y.why(1), 4);
+    check.due("the next level below is free", y.why(2), 0);
   }
 
   private static void whyLadder() {

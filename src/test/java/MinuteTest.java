@@ -14,6 +14,7 @@ public final class MinuteTest {
     divertsBeforeItLands();
     lowestLands();
     shortOnesLandFirst();
+    shortOnesOnLevelZero();
     shortMustBeOverTheFix();
     wakes();
     waitGoesDownWhenClosed();
@@ -186,6 +187,26 @@ public final class MinuteTest {
     check.tellsAircraft("the lowest", x, 3, HEAVY, 702, LANDED, NONE, NONE, NONE, 0, 10);
     check.tells("all", x, 3, 4, 0, 3, 1, 0, 4);
     check.tells("fuel", x, 12, 1265, 24 + 72 + 63 + 198, 96 + 62 + 702, 48);
+  }
+
+  private static void shortOnesOnLevelZero() {
+    HoldingStack x = new HoldingStack();
+    x.setLadder(false);
+    x.enter(LIGHT, 46, 5);
+    x.enter(LIGHT, 45, 0);
+    x.enter(LIGHT, 44, 3);
+    check.due("the one with the least fuel", x.pass(3), 1);
+    check.due("is not that on level 0", x.aircraft(2, 2), LANDED);
+    x.begin(10);
+    x.enter(LIGHT, 45, 5);
+    x.enter(LIGHT, 45, 0);
+    check.due("of two with as much", x.pass(3), 1);
+    check.due("the one on level 0", x.aircraft(1, 2), LANDED);
+    x.begin(10);
+    x.enter(LIGHT, 46, 5);
+    x.enter(LIGHT, 45, 0);
+    check.due("the one with the least fuel", x.pass(3), 1);
+    check.due("is that on level 0", x.aircraft(1, 2), LANDED);
   }
 
   private static void shortMustBeOverTheFix() {

@@ -66,6 +66,20 @@ public final class SettingsTest {
     check.due("aircraft(0, 0)", x.aircraft(0, 0), HoldingStack.BAD_INDEX);
     check.due("the first number", x.enter(HoldingStack.LIGHT, 50, 0), 0);
 
+    HoldingStack z = new HoldingStack();
+    z.setRunway(false);
+    z.enter(HoldingStack.LIGHT, 41, 3);
+    z.enter(HoldingStack.LIGHT, 900, 9);
+    z.pass(6);
+    z.call(1);
+    check.tells("one diverted", z, 15, 17);
+    z.begin(10);
+    check.tells("none diverted", z, 12, 0, 0, 0, 0);
+    z.enter(HoldingStack.LIGHT, 900, 5);
+    z.enter(HoldingStack.LIGHT, 900, 4);
+    check.tellsAircraft("after begin", z, 0, HoldingStack.LIGHT, 900, 0, 5, 1, 0, 0, HoldingStack.NONE);
+    check.tellsAircraft("after begin", z, 1, HoldingStack.LIGHT, 900, 0, 4, 1, 0, 0, HoldingStack.NONE);
+
     HoldingStack y = new HoldingStack();
     y.setLap(2);
     y.enter(HoldingStack.HEAVY, 900, 0);

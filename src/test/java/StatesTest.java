@@ -10,6 +10,7 @@ public final class StatesTest {
     undoBringsAllBack();
     errorsAreNotRecorded();
     keepAndRestore();
+    restoreBringsTheTimesBack();
     slotsAreNoPartOfTheState();
     restoreIsRecorded();
     checksum();
@@ -168,6 +169,22 @@ public final class StatesTest {
     x.pass(1);
     check.due("restore(0) of the new one", x.restore(0), 7);
     check.due("slot 1 stays", x.restore(1), 9);
+  }
+
+  private static void restoreBringsTheTimesBack() {
+    HoldingStack x = new HoldingStack();
+    x.enter(LIGHT, 900, 0);
+    x.pass(3);
+    x.keep(0);
+    x.begin(10);
+    x.pass(50);
+    x.enter(LIGHT, 900, 0);
+    x.pass(3);
+    check.due("landed late", x.aircraft(0, 7), 52);
+    x.restore(0);
+    check.due("landed early", x.aircraft(0, 7), 2);
+    x.undo();
+    check.due("landed late again", x.aircraft(0, 7), 52);
   }
 
   private static void slotsAreNoPartOfTheState() {
