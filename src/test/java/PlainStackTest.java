@@ -1,7 +1,10 @@
 /** Many runs of up to 512 calls, the same every time, on HoldingStack and on PlainStack: the answers must be equal. */
 public final class PlainStackTest {
-  private static final int RUNS = 100;
+  private static final int RUNS = 400;
+  /** What later calls on an object answer is free. */
   private static final int CALLS = 512;
+  /** More calls than any step makes: the longest one writes, checks and runs a text of five strips. */
+  private static final int CALLS_OF_A_STEP = 70;
   private static final int[] ODD = {Integer.MIN_VALUE, -2, -1, 0, 1, 2, 3, 4, 16, 17, 20, 99, 100, 10000, Integer.MAX_VALUE};
   private static final String LETTERS = "+lmhctox@;0123456789 q";
 
@@ -9,6 +12,7 @@ public final class PlainStackTest {
   private HoldingStack stack;
   private PlainStack plain;
   private long seed;
+  private int calls;
   private String where;
 
   public static void main(String[] args) {
@@ -40,21 +44,27 @@ public final class PlainStackTest {
     // Some runs let few minutes pass at once, so that the stack stays crowded; some call down, some never begin anew.
     int minutes = 1 + below(12);
     boolean begins = oneIn(3);
-    for (int call = 0; call < CALLS; call++) {
-      where = "run " + run + ", call " + call + ": ";
-      step(minutes, begins);
-      if (call % 16 == 15) {
+    // Some runs ask little and write few texts, so that more becomes different in as many calls.
+    boolean quiet = oneIn(2);
+    calls = 0;
+    for (int step = 0; calls + CALLS_OF_A_STEP < CALLS; step++) {
+      where = "run " + run + ", step " + step + ": ";
+      step(minutes, begins, quiet);
+      if (step % 16 == 15) {
         due("checksum()", stack.checksum(), plain.checksum());
       }
     }
+    due("checksum()", stack.checksum(), plain.checksum());
   }
 
+  /** Each call of the stack is compared here, and counted. */
   private void due(String call, long got, long want) {
+    calls++;
     check.due(where + call, got, want);
   }
 
-  private void step(int minutes, boolean begins) {
-    int choice = below(60);
+  private void step(int minutes, boolean begins, boolean quiet) {
+    int choice = below(quiet && !oneIn(5) ? 34 : 60);
     if (choice < 14) {
       enterOne();
     } else if (choice < 26) {
