@@ -308,6 +308,11 @@ public final class EnterTest {
       check.due("lap " + lap, x.enter(MEDIUM, 800, 8), 0);
       check.tellsAircraft("lap " + lap, x, 0, MEDIUM, 800, HoldingStack.HOLDING, 8, 1, 0, 0, NONE);
       check.due("level(8)", x.level(8), 0);
+      x.call(0);
+      x.pass(1);
+      x.begin(10);
+      check.due("begun anew, lap " + lap, x.enter(LIGHT, 700, 5), 0);
+      check.tellsAircraft("begun anew, lap " + lap, x, 0, LIGHT, 700, HoldingStack.HOLDING, 5, 1, 0, 0, NONE);
     }
   }
 

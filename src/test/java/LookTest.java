@@ -428,6 +428,19 @@ public final class LookTest {
     }
     check.due("level 0, place 0", x.why(0), 3);
     check.due("level 4, place 0", x.why(1), 0);
+
+    HoldingStack y = new HoldingStack();
+    y.setLap(8);
+    y.enter(LIGHT, 41, 0);
+    y.enter(LIGHT, 41, 9);
+    y.call(1);
+    y.pass(1);
+    check.due("short, level 0, open", y.why(0), 2);
+    check.due("short, level 9, called, open", y.why(1), 2);
+    y.setRunway(false);
+    y.setLadder(false);
+    check.due("short, level 0, closed", y.why(0), 2);
+    check.due("short, level 9, called, closed", y.why(1), 2);
   }
 
   private static void whyOnLevelZero() {

@@ -19,6 +19,7 @@ public final class StatesTest {
     recordsOnlyWhatIsRecorded();
     errorsAreNotRecorded();
     stateIsEverything();
+    stateHasTheTimesOfThoseThatLeft();
     stateWithoutTheText();
     stateWithoutTheSlots();
     stateWithoutTheHistory();
@@ -33,6 +34,7 @@ public final class StatesTest {
     restoreOfAnEmptySlot();
     restoreReturnsTheTimeThen();
     restoreBringsAllBack();
+    restoreBringsTheTimesBack();
     restoreLeavesTheSlot();
     restoreIsRecorded();
 
@@ -270,6 +272,23 @@ public final class StatesTest {
     return all.toString();
   }
 
+  private static void stateHasTheTimesOfThoseThatLeft() {
+    check.sentence(23, "a state is everything but the text, the history and the slots");
+    HoldingStack x = new HoldingStack();
+    x.enter(LIGHT, 900, 0);
+    x.pass(3);
+    check.due("landed early", x.aircraft(0, 7), 2);
+    x.begin(10);
+    x.pass(50);
+    x.enter(LIGHT, 900, 0);
+    x.pass(3);
+    check.due("another one, landed late", x.aircraft(0, 7), 52);
+    for (int undone = 0; undone < 4; undone++) {
+      x.undo();
+    }
+    check.tellsAircraft("undone", x, 0, LIGHT, 888, HoldingStack.LANDED, NONE, NONE, NONE, 0, 2);
+  }
+
   private static void stateWithoutTheText() {
     check.sentence(23, "a state is everything but the text");
     HoldingStack x = new HoldingStack();
@@ -439,6 +458,23 @@ public final class StatesTest {
     check.due("and goes on as before", answers(x).equals(answers(y)) ? 1 : 0, 1);
   }
 
+  private static void restoreBringsTheTimesBack() {
+    check.sentence(25, "Restores the state that a slot keeps");
+    HoldingStack x = new HoldingStack();
+    x.enter(LIGHT, 900, 0);
+    x.pass(3);
+    x.keep(0);
+    x.begin(10);
+    x.pass(50);
+    x.enter(LIGHT, 900, 0);
+    x.pass(3);
+    check.due("landed late", x.aircraft(0, 7), 52);
+    x.restore(0);
+    check.due("landed early", x.aircraft(0, 7), 2);
+    x.undo();
+    check.due("landed late again", x.aircraft(0, 7), 52);
+  }
+
   private static void restoreLeavesTheSlot() {
     check.sentence(25, "the slot keeps it");
     HoldingStack x = busyStack();
@@ -512,9 +548,9 @@ public final class StatesTest {
     x.setRunway(true);
     check.due("open", x.checksum(), checksumOf(x));
     x.setLadder(true);
-    for (int i = 0; i < 4; i++) {
-      x.pass(3);
-      check.due("three minutes later", x.checksum(), checksumOf(x));
+    for (int i = 0; i < 2; i++) {
+      x.pass(6);
+      check.due("six minutes later", x.checksum(), checksumOf(x));
     }
   }
 

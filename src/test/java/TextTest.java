@@ -477,9 +477,9 @@ public final class TextTest {
     y.call(1);
     y.setRunway(true);
     y.pass(1);
-    while (x.tell(17) < 5) {
-      x.setRunway(true);
-    }
+    // Three runs are three states; two more make the history as full as that of the other one.
+    x.setRunway(true);
+    x.setRunway(true);
     check.due("checksum() of the same calls", x.checksum(), y.checksum());
   }
 
@@ -497,7 +497,7 @@ public final class TextTest {
 
   private static void runUpToTheFirstError() {
     check.sentence(22, "up to the first one that would return an error");
-    // No aircraft 1 or 19; 0 is called already; short; no such level; taken. (An aircraft that is called is on level 5.)
+    // Aircraft 0 is called and on level 5: there is no 1 or 19, 0 is called already, short, no such level, taken.
     String[] bad = {"c1;", "c19;", "c0;", "+l40@1;", "+l1@1;", "+l100@10;", "+l100@15;", "+h300@5;"};
     for (String strip : bad) {
       HoldingStack x = new HoldingStack();
