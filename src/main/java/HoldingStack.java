@@ -571,9 +571,12 @@ public final class HoldingStack {
             fuelDiverted = other.fuelDiverted;
             reason = other.reason;
             for (int number = 0; number < aircraft.length && number < count; number++) {
-                aircraft[number].copyFrom(other.aircraft[number]);
+                Aircraft copied = other.numbered(number);
+                if (copied != null) {
+                    aircraft[number].copyFrom(copied);
+                }
             }
-            for (int level = 0; level < holders.length; level++) {
+            for (int level = 0; level < holders.length && level < other.holders.length; level++) {
                 holders[level] = other.holders[level];
             }
         }
@@ -653,7 +656,7 @@ public final class HoldingStack {
 
         /** Lets an aircraft enter that is not refused, and returns its number. */
         int admit(Kind kind, int fuel, int level) {
-            if (isFull()) {
+            if (count < 0 || count >= aircraft.length) {
                 return FULL;
             }
             Aircraft entering = aircraft[count];
@@ -802,17 +805,19 @@ public final class HoldingStack {
             if (size >= states.length) {
                 dropOldest();
             }
-            states[size].copyFrom(state);
-            size++;
+            if (size >= 0 && size < states.length) {
+                states[size].copyFrom(state);
+                size++;
+            }
         }
 
         /** Moves the oldest state behind the others, so that its room is used again. */
         private void dropOldest() {
-            State oldest = states[0];
             for (int i = 1; i < states.length; i++) {
+                State oldest = states[i - 1];
                 states[i - 1] = states[i];
+                states[i] = oldest;
             }
-            states[states.length - 1] = oldest;
             size = states.length - 1;
         }
 

@@ -16,6 +16,7 @@ public final class EnterTest {
     fuelRange();
     ordersOfErrors();
     fullAtTwenty();
+    fullIsNotRecorded();
     fullBeforeRefused();
     taken();
     takenUntilTheLevelIsFree();
@@ -153,6 +154,18 @@ public final class EnterTest {
     check.changesNothing(x, "the 21st", () -> x.enter(LIGHT, 5000, 11), FULL);
     x.begin(16);
     check.due("there is room again", x.enter(LIGHT, 5000, 11), 0);
+  }
+
+  private static void fullIsNotRecorded() {
+    check.sentence(7, "Each successful call of a method that is described as recorded records the state before it");
+    HoldingStack x = twenty();
+    check.due("the 21st, full history", x.enter(LIGHT, 5000, 15), FULL);
+    // After undo() of a minute there is room in the history, so that its length would tell of one more state.
+    x.pass(1);
+    check.due("undo()", x.undo(), 4);
+    check.changesNothing(x, "the 21st, four states", () -> x.enter(LIGHT, 5000, 15), FULL);
+    check.due("undo()", x.undo(), 3);
+    check.tells("undo() takes back the 20th", x, 3, 19);
   }
 
   private static void fullBeforeRefused() {

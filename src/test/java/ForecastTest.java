@@ -35,6 +35,7 @@ public final class ForecastTest {
     bestLevelWouldLandFromNone();
     bestLevelUpToSixHundred();
     bestLevelSoonest();
+    bestLevelAboveOneFromWhichItWouldLandLater();
     bestLevelHighest();
     bestLevelLowestOfSeveral();
 
@@ -228,6 +229,8 @@ public final class ForecastTest {
       check.due("just the reserve, kind " + kind, x.endurance(0), 0);
       x.pass(1);
       check.due("less, kind " + kind, x.endurance(0), 0);
+      x.pass(1);
+      check.due("less by two minutes, kind " + kind, x.endurance(0), 0);
     }
   }
 
@@ -416,6 +419,27 @@ public final class ForecastTest {
     check.due("from level 9", x.minutesLeft(1), NONE);
     x.enter(LIGHT, 70, 10);
     check.due("from level 10", x.minutesLeft(2), 15);
+  }
+
+  private static void bestLevelAboveOneFromWhichItWouldLandLater() {
+    check.sentence(17, "Finds the level on which an aircraft would have to enter now to land soonest");
+    HoldingStack x = new HoldingStack();
+    x.enter(HEAVY, 333, 5);
+    x.pass(1);
+    x.enter(LIGHT, 75, 0);
+    // On level 4 the heavy one would have 217 in minute 6, land, short, and let the new one wait until minute 11. If the
+    // new one is on level 4, the heavy one stays on 5, has 221 in minute 6, and the new one lands in minute 7, short.
+    check.due("4 keeps the heavy one up", x.bestLevel(LIGHT, 64), 4);
+    for (int level : new int[] {1, 2, 3, 4, 6, 7, 8, 9}) {
+      x.enter(LIGHT, 64, level);
+      check.due("entered on level " + level, x.minutesLeft(2), level == 4 ? 7 : 11);
+      x.undo();
+    }
+    HoldingStack y = new HoldingStack();
+    y.enter(HEAVY, 326, 7);
+    y.enter(MEDIUM, 150, 0);
+    y.pass(2);
+    check.due("6 keeps the heavy one up", y.bestLevel(LIGHT, 68), 6);
   }
 
   private static void bestLevelHighest() {

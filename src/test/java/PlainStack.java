@@ -8,7 +8,7 @@ import java.util.regex.Pattern;
 
 /**
  * The document once more, written for nothing but to be plain: no occupied levels, no forecasts and no sums are held
- * that can be found anew, each question lets all 600 minutes pass on a copy, and texts are read by patterns.
+ * that can be found anew, each question lets minutes pass on a copy of its own, and texts are read by patterns.
  */
 final class PlainStack {
   private static final int[] RATE = {4, 9, 18}, RESERVE = {40, 100, 220}, WAKE = {2, 3, 4};
@@ -261,6 +261,8 @@ final class PlainStack {
     State s = start.copy();
     for (int minutes = 0; minutes <= 600; minutes++) {
       if (s.planes.get(aircraft).status == 1) return minutes;
+      // One that is DIVERTED stays so; without this line the comparison takes far longer.
+      if (s.planes.get(aircraft).status == 2) return -6;
       s.minute();
     }
     return -6;
